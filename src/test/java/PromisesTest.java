@@ -16,6 +16,7 @@ public final class PromisesTest {
         promise4Relation();
         promise5Condition();
         promise5ConditionsTell();
+        promise5ConditionsAsJustThen();
         promise6SetPushes();
         promise6SetRefuses();
         promise7Drop();
@@ -203,9 +204,47 @@ public final class PromisesTest {
         pairs("far of what is left, turned", x, onFar, " 3-2");
         x.set(1, 3, 2);
         pairs("far round a ring", x, far, " 2-2 2-3 3-2 3-3");
+        RelationRows ways = withPairs(4, 3, 1, 0, 0, 2, 1, 3, 3, 2);
+        ways.condition(4, 0, 0);
+        ways.condition(5, 0, NONE);
+        pairs("through by two ways", ways, 1, " 1-2");
+        pairs("far by two ways", ways, 2, " 0-2 1-0 1-2 1-3 3-2");
+        ways.drop(0, 3, 2);
+        pairs("through by way of 0", ways, 1, " 1-2");
+        pairs("far by way of 0", ways, 2, " 0-2 1-0 1-2 1-3");
         RelationRows full = withPairs(40, 3, 39, 0);
         full.condition(1, 0, NONE);
         CHECK.same("not among forty", full.count(1), 1599);
+    }
+
+    /** Each call sees the last change by itself, with no other call between that could have seen it first. */
+    private static void promise5ConditionsAsJustThen() {
+        RelationRows x = withPairs(4, 3, 0, 1);
+        int turned = x.condition(0, 0, NONE);
+        int far = x.condition(5, turned, NONE);
+        CHECK.yes("has", x.has(far, 1, 0));
+        x.set(0, 1, 2);
+        CHECK.same("route", x.route(turned, 2, 0, 1), 1);
+        x.set(0, 2, 3);
+        CHECK.same("length", x.length(turned, 3, 0), 3);
+        x.drop(0, 0, 1);
+        CHECK.same("count", x.count(far), 3);
+        x.drop(0, 2, 3);
+        CHECK.same("differ", x.differ(far, turned), NONE);
+        x.set(0, 3, 2);
+        CHECK.same("next", x.next(far, 2, 1), 3);
+        x.empty(0);
+        CHECK.same("differ the other way", x.differ(0, far), NONE);
+        x.set(0, 3, 0);
+        CHECK.same("back", x.back(far, 3, 0), 0);
+        x.drop(0, 3, 0);
+        CHECK.no("has no more", x.has(far, 0, 3));
+        int classes = x.relation(6, NONE, NONE);
+        int both = x.condition(2, classes, turned);
+        CHECK.same("both have none", x.count(both), 0);
+        x.set(classes, 1, 0);
+        x.set(0, 1, 0);
+        CHECK.yes("two changes at once", x.has(both, 0, 1));
     }
 
     private static void promise6SetPushes() {
@@ -576,8 +615,11 @@ public final class PromisesTest {
         x.set(1, 4, 0);
         x.set(0, 3, 39);
         CHECK.same("by a, then by b", x.differ(0, 1), 159);
+        x.set(0, 0, 0);
+        CHECK.same("the first pair of all", x.differ(1, 0), 0);
         CHECK.same("empty ones are alike", withTwoEmpty().differ(0, 1), NONE);
         x.condition(0, 0, NONE);
+        x.drop(0, 0, 0);
         CHECK.same("by a condition", x.differ(0, 2), 3 * 40 + 4);
         CHECK.same("by a condition, turned", x.differ(2, 0), 3 * 40 + 4);
         for (int bad : new int[] {-1, 3, LEAST, MOST}) {
