@@ -32,22 +32,41 @@ final class Check {
     }
 
     /** The call throws this very class, and the object tells the same after it as before. */
-    void refuses(String what, RelationRows x, Class<? extends RuntimeException> due, Call call) {
-        String before = Snapshot.of(x);
+    void refuses(String what, Rows x, Class<? extends RuntimeException> due, Call call) {
+        String before = Snapshot.all(x);
         sameText(what, outcome(call), "throws." + due.getSimpleName());
-        sameText(what + " changed the object:", Snapshot.of(x), before);
+        sameText(what + " changed the object:", Snapshot.all(x), before);
     }
 
-    void badArgument(String what, RelationRows x, Call call) {
+    void badArgument(String what, Rows x, Call call) {
         refuses(what, x, IllegalArgumentException.class, call);
     }
 
-    void badState(String what, RelationRows x, Call call) {
+    void badState(String what, Rows x, Call call) {
         refuses(what, x, IllegalStateException.class, call);
     }
 
-    void noElement(String what, RelationRows x, Call call) {
+    void noElement(String what, Rows x, Call call) {
         refuses(what, x, NoSuchElementException.class, call);
+    }
+
+    void badIndex(String what, Rows x, Call call) {
+        refuses(what, x, ArrayIndexOutOfBoundsException.class, call);
+    }
+
+    void pairs(String what, Rows x, int relation, String want) {
+        sameText(what, Snapshot.pairs(x, relation), want);
+    }
+
+    /** The last set() pushed out these and no others, told as "a-b c-d". */
+    void pushed(String what, Rows x, String want) {
+        StringBuilder got = new StringBuilder();
+        int pushed = x.of(2);
+        for (int i = 0; i < pushed; i++) {
+            got.append(i == 0 ? "" : " ").append(x.pushed(i, 0)).append('-').append(x.pushed(i, 1));
+        }
+        sameText(what, got.toString(), want);
+        noElement(what + ", one more", x, () -> x.pushed(pushed, 0));
     }
 
     static String outcome(Call call) {

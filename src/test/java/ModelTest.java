@@ -3,7 +3,6 @@ import java.util.Random;
 /** Long runs of drawn calls, the same each time: the class and the model answer, or refuse, alike. */
 public final class ModelTest {
     private static final int RUNS = 1500;
-    private static final int CALLS = 512;
     private static final String[] CALL_NAMES = {
         "clear", "kind", "relation", "condition", "set", "drop", "empty", "pushed", "has", "next", "back", "count",
         "length", "route", "leader", "differ", "tally", "of", "told",
@@ -18,6 +17,7 @@ public final class ModelTest {
     private final int things;
     /** A run keeps to few things, or to all, so that pairs meet. */
     private final int busy;
+    private int calls = 0;
 
     private ModelTest(Check check, long seed) {
         this.check = check;
@@ -44,7 +44,7 @@ public final class ModelTest {
         for (int made = random.nextInt(6); made > 0; made--) {
             drawn(seed, "relation");
         }
-        for (int call = 0; call < CALLS; call++) {
+        while (calls < Rows.MOST_CALLS) {
             String name = drawnName();
             // With relations about, clear would end most runs too early.
             if (name.equals("clear") && random.nextInt(3) != 0) {
@@ -133,6 +133,7 @@ public final class ModelTest {
     }
 
     private boolean ask(int seed, String name, int p, int q, int t, int u) {
+        calls++;
         String due = Check.outcome(() -> modelAnswer(name, p, q, t, u));
         String got = Check.outcome(() -> realAnswer(name, p, q, t, u));
         check.sameText("seed " + seed + ": " + name + "(" + p + ", " + q + ", " + t + ", " + u + ")", got, due);

@@ -1,8 +1,8 @@
 /** Each promise of the document by itself: ordinary calls, the edges it names, and wrong calls. */
 public final class PromisesTest {
     private static final int NONE = RelationRows.NONE;
-    private static final int LEAST = Integer.MIN_VALUE;
-    private static final int MOST = Integer.MAX_VALUE;
+    private static final int LEAST = Scenes.LEAST;
+    private static final int MOST = Scenes.MOST;
 
     private static final Check CHECK = new Check();
 
@@ -36,36 +36,14 @@ public final class PromisesTest {
         CHECK.end();
     }
 
-    private static int number(boolean answer) {
-        return answer ? 1 : 0;
-    }
-
-    /** Things of kinds 0, 0, 1, 1, 2, 2. */
-    private static RelationRows sixOfThreeKinds() {
-        RelationRows x = new RelationRows(6);
-        for (int thing = 0; thing < 6; thing++) {
-            x.kind(thing, thing / 2);
-        }
-        return x;
-    }
-
-    private static RelationRows withPairs(int things, int form, int... pairs) {
-        RelationRows x = new RelationRows(things);
-        x.relation(form, NONE, NONE);
-        for (int i = 0; i + 1 < pairs.length; i += 2) {
-            x.set(0, pairs[i], pairs[i + 1]);
-        }
-        return x;
-    }
-
-    private static void pairs(String what, RelationRows x, int relation, String want) {
-        CHECK.sameText(what, Snapshot.pairs(x, relation), want);
+    private static void pairs(String what, Rows x, int relation, String want) {
+        CHECK.pairs(what, x, relation, want);
     }
 
     private static void promise1NewObject() {
         int[][] asked = {{1, 1}, {2, 2}, {39, 39}, {40, 40}, {41, 40}, {0, 1}, {-1, 1}, {LEAST, 1}, {MOST, 40}};
         for (int[] row : asked) {
-            RelationRows x = new RelationRows(row[0]);
+            Rows x = new Rows(row[0]);
             CHECK.sameText("new " + row[0], Snapshot.of(x), row[1] + " things, 0 relations, pushed\ntallies");
             CHECK.same("new " + row[0] + ": kind of the last thing", x.kind(row[1] - 1, 0), 0);
             CHECK.badArgument("new " + row[0] + ": kind of one more", x, () -> x.kind(row[1], 0));
@@ -73,7 +51,7 @@ public final class PromisesTest {
     }
 
     private static void promise2Clear() {
-        RelationRows x = sixOfThreeKinds();
+        Rows x = Scenes.sixOfThreeKinds();
         x.relation(0, NONE, NONE);
         x.condition(1, 0, NONE);
         x.set(0, 1, 2);
@@ -91,7 +69,7 @@ public final class PromisesTest {
     }
 
     private static void promise3Kind() {
-        RelationRows x = new RelationRows(3);
+        Rows x = new Rows(3);
         CHECK.same("kind at first", x.kind(1, 3), 0);
         CHECK.same("kind then", x.kind(1, 1), 3);
         CHECK.same("kind like before", x.kind(1, 1), 1);
@@ -113,7 +91,7 @@ public final class PromisesTest {
     }
 
     private static void promise4Relation() {
-        RelationRows x = sixOfThreeKinds();
+        Rows x = Scenes.sixOfThreeKinds();
         CHECK.badArgument("form -1", x, () -> x.relation(-1, 0, 0));
         CHECK.badArgument("form 7", x, () -> x.relation(7, 0, 0));
         CHECK.badArgument("form 10", x, () -> x.relation(10, 0, 0));
@@ -147,7 +125,7 @@ public final class PromisesTest {
     }
 
     private static void promise5Condition() {
-        RelationRows x = new RelationRows(3);
+        Rows x = new Rows(3);
         CHECK.badArgument("no relation yet", x, () -> x.condition(0, 0, NONE));
         x.relation(3, NONE, NONE);
         CHECK.badArgument("condition -1", x, () -> x.condition(-1, 0, 0));
@@ -175,7 +153,7 @@ public final class PromisesTest {
     }
 
     private static void promise5ConditionsTell() {
-        RelationRows x = withPairs(4, 3, 0, 1, 1, 2);
+        Rows x = Scenes.withPairs(4, 3, 0, 1, 1, 2);
         x.relation(3, NONE, NONE);
         x.set(1, 1, 2);
         x.set(1, 2, 3);
@@ -204,7 +182,7 @@ public final class PromisesTest {
         pairs("far of what is left, turned", x, onFar, " 3-2");
         x.set(1, 3, 2);
         pairs("far round a ring", x, far, " 2-2 2-3 3-2 3-3");
-        RelationRows ways = withPairs(4, 3, 1, 0, 0, 2, 1, 3, 3, 2);
+        Rows ways = Scenes.withPairs(4, 3, 1, 0, 0, 2, 1, 3, 3, 2);
         ways.condition(4, 0, 0);
         ways.condition(5, 0, NONE);
         pairs("through by two ways", ways, 1, " 1-2");
@@ -212,14 +190,14 @@ public final class PromisesTest {
         ways.drop(0, 3, 2);
         pairs("through by way of 0", ways, 1, " 1-2");
         pairs("far by way of 0", ways, 2, " 0-2 1-0 1-2 1-3");
-        RelationRows full = withPairs(40, 3, 39, 0);
+        Rows full = Scenes.withPairs(40, 3, 39, 0);
         full.condition(1, 0, NONE);
         CHECK.same("not among forty", full.count(1), 1599);
     }
 
     /** Each call sees the last change by itself, with no other call between that could have seen it first. */
     private static void promise5ConditionsAsJustThen() {
-        RelationRows x = withPairs(4, 3, 0, 1);
+        Rows x = Scenes.withPairs(4, 3, 0, 1);
         int turned = x.condition(0, 0, NONE);
         int far = x.condition(5, turned, NONE);
         CHECK.yes("has", x.has(far, 1, 0));
@@ -248,7 +226,7 @@ public final class PromisesTest {
     }
 
     private static void promise6SetPushes() {
-        RelationRows one = withPairs(5, 0, 0, 1, 2, 3);
+        Rows one = Scenes.withPairs(5, 0, 0, 1, 2, 3);
         CHECK.same("one to one, two pushed", one.set(0, 0, 3), 2);
         CHECK.sameText("one to one", Snapshot.of(one), "5 things, 1 relations, pushed 0-1 2-3\n"
                 + "0: 0 -1 -1 pairs 0-3\ntallies 0-1=1 0-3=1 2-3=1");
@@ -259,21 +237,21 @@ public final class PromisesTest {
         CHECK.same("told first of the second again", one.pushed(0, 0), 0);
         pairs("one to one at last", one, 0, " 4-0");
 
-        RelationRows many = withPairs(4, 1, 0, 1, 0, 2, 0, 0);
+        Rows many = Scenes.withPairs(4, 1, 0, 1, 0, 2, 0, 0);
         CHECK.same("one to many", many.set(0, 3, 2), 1);
         CHECK.same("one to many told", many.pushed(0, 0) * 10 + many.pushed(0, 1), 2);
         pairs("one to many", many, 0, " 0-0 0-1 3-2");
 
-        RelationRows toOne = withPairs(4, 2, 1, 0, 2, 0, 0, 0);
+        Rows toOne = Scenes.withPairs(4, 2, 1, 0, 2, 0, 0, 0);
         CHECK.same("many to one", toOne.set(0, 2, 3), 1);
         CHECK.same("many to one told", toOne.pushed(0, 0) * 10 + toOne.pushed(0, 1), 20);
         pairs("many to one", toOne, 0, " 0-0 1-0 2-3");
 
-        RelationRows free = withPairs(3, 3, 0, 1, 0, 2, 1, 1);
+        Rows free = Scenes.withPairs(3, 3, 0, 1, 0, 2, 1, 1);
         CHECK.same("many to many", free.set(0, 2, 1), 0);
         pairs("many to many", free, 0, " 0-1 0-2 1-1 2-1");
 
-        RelationRows twins = withPairs(6, 4, 5, 0, 3, 2);
+        Rows twins = Scenes.withPairs(6, 4, 5, 0, 3, 2);
         pairs("twins both ways", twins, 0, " 0-5 2-3 3-2 5-0");
         CHECK.same("twins that were there, turned", twins.set(0, 0, 5), 0);
         CHECK.same("twins, two pushed", twins.set(0, 2, 0), 2);
@@ -282,18 +260,18 @@ public final class PromisesTest {
         CHECK.same("twins, the second one had one", twins.set(0, 4, 2), 1);
         CHECK.same("twins, told", twins.pushed(0, 0) * 10 + twins.pushed(0, 1), 20);
 
-        RelationRows mutual = withPairs(4, 5, 0, 1, 2, 2);
+        Rows mutual = Scenes.withPairs(4, 5, 0, 1, 2, 2);
         CHECK.same("mutual", mutual.set(0, 3, 0), 0);
         pairs("mutual both ways", mutual, 0, " 0-1 0-3 1-0 2-2 3-0");
 
-        RelationRows classes = withPairs(5, 6, 4, 1, 2, 3);
+        Rows classes = Scenes.withPairs(5, 6, 4, 1, 2, 3);
         CHECK.same("classes", classes.set(0, 3, 4), 0);
         pairs("classes become one", classes, 0, " 0-0 1-1 1-2 1-3 1-4 2-1 2-2 2-3 2-4 3-1 3-2 3-3 3-4 4-1 4-2 4-3 4-4");
         CHECK.same("a class with itself", classes.set(0, 0, 0), 0);
     }
 
     private static void promise6SetRefuses() {
-        RelationRows x = sixOfThreeKinds();
+        Rows x = Scenes.sixOfThreeKinds();
         x.relation(0, 0, 1);
         x.relation(4, 2, 2);
         x.relation(6, NONE, NONE);
@@ -321,22 +299,22 @@ public final class PromisesTest {
 
     private static void promise7Drop() {
         for (int form = 0; form <= 3; form++) {
-            RelationRows x = withPairs(4, form, 0, 1, 1, 0, 2, 2);
+            Rows x = Scenes.withPairs(4, form, 0, 1, 1, 0, 2, 2);
             CHECK.yes("drop " + form, x.drop(0, 0, 1));
             CHECK.no("drop again " + form, x.drop(0, 0, 1));
             CHECK.yes("drop one with itself " + form, x.drop(0, 2, 2));
             pairs("left of form " + form, x, 0, " 1-0");
         }
-        RelationRows twins = withPairs(4, 4, 0, 1, 2, 3);
+        Rows twins = Scenes.withPairs(4, 4, 0, 1, 2, 3);
         CHECK.yes("drop twins", twins.drop(0, 1, 0));
         CHECK.no("drop no twins", twins.drop(0, 1, 2));
         pairs("twins left", twins, 0, " 2-3 3-2");
-        CHECK.badArgument("drop its own twin", twins, () -> number(twins.drop(0, 2, 2)));
-        RelationRows mutual = withPairs(4, 5, 0, 1, 2, 3, 1, 1);
+        CHECK.badArgument("drop its own twin", twins, () -> Scenes.number(twins.drop(0, 2, 2)));
+        Rows mutual = Scenes.withPairs(4, 5, 0, 1, 2, 3, 1, 1);
         CHECK.yes("drop mutual", mutual.drop(0, 1, 0));
         CHECK.yes("drop mutual with itself", mutual.drop(0, 1, 1));
         pairs("mutual left", mutual, 0, " 2-3 3-2");
-        RelationRows classes = withPairs(4, 6, 0, 1, 1, 2);
+        Rows classes = Scenes.withPairs(4, 6, 0, 1, 1, 2);
         CHECK.no("drop in another class", classes.drop(0, 0, 3));
         CHECK.no("drop a class with itself", classes.drop(0, 1, 1));
         CHECK.same("nothing went", classes.count(0), 10);
@@ -345,29 +323,29 @@ public final class PromisesTest {
         CHECK.yes("drop in a class of two", classes.drop(0, 2, 0));
         pairs("all are alone", classes, 0, " 0-0 1-1 2-2 3-3");
 
-        RelationRows x = sixOfThreeKinds();
+        Rows x = Scenes.sixOfThreeKinds();
         x.relation(0, 0, 1);
         x.relation(6, 1, 1);
         x.condition(3, 0, 1);
         x.set(0, 0, 2);
         x.set(0, 0, 3);
         for (int bad : new int[] {-1, 3, LEAST, MOST}) {
-            CHECK.badArgument("drop in " + bad, x, () -> number(x.drop(bad, 0, 2)));
+            CHECK.badArgument("drop in " + bad, x, () -> Scenes.number(x.drop(bad, 0, 2)));
         }
         for (int bad : new int[] {-1, 6, LEAST, MOST}) {
-            CHECK.badArgument("drop from " + bad, x, () -> number(x.drop(0, bad, 2)));
-            CHECK.badArgument("drop to " + bad, x, () -> number(x.drop(2, 0, bad)));
+            CHECK.badArgument("drop from " + bad, x, () -> Scenes.number(x.drop(0, bad, 2)));
+            CHECK.badArgument("drop to " + bad, x, () -> Scenes.number(x.drop(2, 0, bad)));
         }
-        CHECK.badArgument("drop what does not fit", x, () -> number(x.drop(0, 2, 0)));
-        CHECK.badArgument("drop a thing of no class", x, () -> number(x.drop(1, 0, 0)));
-        CHECK.badState("drop by a condition", x, () -> number(x.drop(2, 0, 3)));
+        CHECK.badArgument("drop what does not fit", x, () -> Scenes.number(x.drop(0, 2, 0)));
+        CHECK.badArgument("drop a thing of no class", x, () -> Scenes.number(x.drop(1, 0, 0)));
+        CHECK.badState("drop by a condition", x, () -> Scenes.number(x.drop(2, 0, 3)));
         CHECK.yes("drop leaves what was pushed out", x.drop(0, 0, 3) && x.of(2) == 1 && x.pushed(0, 1) == 2);
     }
 
     private static void promise8Empty() {
         int[] less = {2, 2, 2, 3, 4, 5, 12};
         for (int form = 0; form <= 6; form++) {
-            RelationRows x = new RelationRows(5);
+            Rows x = new Rows(5);
             x.kind(4, 1);
             x.relation(form, 0, 0);
             x.set(0, 0, 1);
@@ -384,7 +362,7 @@ public final class PromisesTest {
             CHECK.same("empty again " + form, x.empty(0), 0);
             CHECK.same("tallies stay " + form, x.tally(0, 1), tally);
         }
-        RelationRows x = withPairs(3, 0, 0, 1, 0, 2);
+        Rows x = Scenes.withPairs(3, 0, 0, 1, 0, 2);
         x.condition(0, 0, NONE);
         for (int bad : new int[] {-1, 2, LEAST, MOST}) {
             CHECK.badArgument("empty " + bad, x, () -> x.empty(bad));
@@ -396,7 +374,7 @@ public final class PromisesTest {
     }
 
     private static void promise9Pushed() {
-        RelationRows x = new RelationRows(5);
+        Rows x = new Rows(5);
         CHECK.noElement("nothing yet", x, () -> x.pushed(0, 0));
         x.relation(0, NONE, NONE);
         x.relation(3, NONE, NONE);
@@ -421,7 +399,7 @@ public final class PromisesTest {
     }
 
     private static void promise10Has() {
-        RelationRows x = sixOfThreeKinds();
+        Rows x = Scenes.sixOfThreeKinds();
         x.relation(2, 0, 1);
         x.relation(6, 1, 1);
         x.condition(1, 0, NONE);
@@ -436,19 +414,19 @@ public final class PromisesTest {
         CHECK.no("by a condition not", x.has(2, 1, 2));
         CHECK.no("its own twin is asked without harm", x.has(3, 1, 1));
         for (int bad : new int[] {-1, 4, LEAST, MOST}) {
-            CHECK.badArgument("has in " + bad, x, () -> number(x.has(bad, 0, 0)));
+            CHECK.badArgument("has in " + bad, x, () -> Scenes.number(x.has(bad, 0, 0)));
         }
         for (int bad : new int[] {-1, 6, LEAST, MOST}) {
-            CHECK.badArgument("has from " + bad, x, () -> number(x.has(0, bad, 0)));
-            CHECK.badArgument("has to " + bad, x, () -> number(x.has(0, 0, bad)));
+            CHECK.badArgument("has from " + bad, x, () -> Scenes.number(x.has(0, bad, 0)));
+            CHECK.badArgument("has to " + bad, x, () -> Scenes.number(x.has(0, 0, bad)));
         }
-        RelationRows forty = withPairs(40, 3, 39, 39, 0, 39, 31, 32);
+        Rows forty = Scenes.withPairs(40, 3, 39, 39, 0, 39, 31, 32);
         CHECK.yes("the last thing", forty.has(0, 39, 39) && forty.has(0, 0, 39) && forty.has(0, 31, 32));
         CHECK.same("and no others", forty.count(0), 3);
     }
 
     private static void promise11Next() {
-        RelationRows x = withPairs(40, 3, 5, 39, 5, 0, 5, 32, 5, 7, 6, 1);
+        Rows x = Scenes.withPairs(40, 3, 5, 39, 5, 0, 5, 32, 5, 7, 6, 1);
         int[] due = {0, 7, 32, 39};
         for (int i = 0; i < due.length; i++) {
             CHECK.same("next " + i, x.next(0, 5, i), due[i]);
@@ -467,7 +445,7 @@ public final class PromisesTest {
     }
 
     private static void promise12Back() {
-        RelationRows x = withPairs(40, 3, 39, 5, 0, 5, 32, 5, 7, 5, 1, 6);
+        Rows x = Scenes.withPairs(40, 3, 39, 5, 0, 5, 32, 5, 7, 5, 1, 6);
         int[] due = {0, 7, 32, 39};
         for (int i = 0; i < due.length; i++) {
             CHECK.same("back " + i, x.back(0, 5, i), due[i]);
@@ -488,10 +466,10 @@ public final class PromisesTest {
     private static void promise13Count() {
         int[] due = {2, 2, 2, 2, 4, 4, 8};
         for (int form = 0; form <= 6; form++) {
-            RelationRows x = withPairs(4, form, 0, 1, 2, 3);
+            Rows x = Scenes.withPairs(4, form, 0, 1, 2, 3);
             CHECK.same("count " + form, x.count(0), due[form]);
         }
-        RelationRows x = withPairs(5, 5, 1, 1, 1, 2);
+        Rows x = Scenes.withPairs(5, 5, 1, 1, 1, 2);
         CHECK.same("count of mutual ones", x.count(0), 3);
         for (int bad : new int[] {-1, 1, LEAST, MOST}) {
             CHECK.badArgument("count in " + bad, x, () -> x.count(bad));
@@ -501,7 +479,7 @@ public final class PromisesTest {
     }
 
     private static void promise14Length() {
-        RelationRows x = withPairs(6, 3, 0, 1, 1, 2, 2, 3, 0, 4, 4, 3, 3, 0);
+        Rows x = Scenes.withPairs(6, 3, 0, 1, 1, 2, 2, 3, 0, 4, 4, 3, 3, 0);
         CHECK.same("to itself", x.length(0, 0, 0), 0);
         CHECK.same("to itself, without pairs", x.length(0, 5, 5), 0);
         CHECK.same("one step", x.length(0, 0, 4), 1);
@@ -518,14 +496,14 @@ public final class PromisesTest {
         }
         x.condition(0, 0, NONE);
         CHECK.same("by a condition", x.length(1, 0, 1), 3);
-        RelationRows chain = new RelationRows(40);
+        Rows chain = new Rows(40);
         chain.relation(0, NONE, NONE);
         for (int a = 0; a < 39; a++) {
             chain.set(0, 39 - a, 38 - a);
         }
         CHECK.same("the longest", chain.length(0, 39, 0), 39);
         CHECK.same("the last of the longest", chain.route(0, 39, 0, 39), 0);
-        RelationRows kinds = sixOfThreeKinds();
+        Rows kinds = Scenes.sixOfThreeKinds();
         kinds.relation(3, 0, 1);
         kinds.relation(4, 2, 2);
         kinds.set(0, 0, 2);
@@ -535,7 +513,7 @@ public final class PromisesTest {
     }
 
     private static void promise15Route() {
-        RelationRows x = withPairs(8, 3, 0, 6, 0, 1, 0, 2, 1, 5, 2, 4, 6, 3, 5, 7, 4, 7, 3, 7, 1, 6);
+        Rows x = Scenes.withPairs(8, 3, 0, 6, 0, 1, 0, 2, 1, 5, 2, 4, 6, 3, 5, 7, 4, 7, 3, 7, 1, 6);
         routeIs(x, 0, 0, 7, 0, 1, 5, 7);
         x.drop(0, 1, 5);
         routeIs(x, 0, 0, 7, 0, 2, 4, 7);
@@ -560,12 +538,12 @@ public final class PromisesTest {
         }
         x.condition(0, 0, NONE);
         routeIs(x, 1, 7, 0, 7, 6, 0);
-        RelationRows ring = withPairs(3, 3, 0, 0, 0, 1, 1, 0);
+        Rows ring = Scenes.withPairs(3, 3, 0, 0, 0, 1, 1, 0);
         routeIs(ring, 0, 0, 0, 0);
         routeIs(ring, 0, 0, 1, 0, 1);
     }
 
-    private static void routeIs(RelationRows x, int relation, int a, int b, int... due) {
+    private static void routeIs(Rows x, int relation, int a, int b, int... due) {
         CHECK.same("length of the route", x.length(relation, a, b), due.length - 1);
         for (int i = 0; i < due.length; i++) {
             CHECK.same("route " + a + " " + b + " " + i, x.route(relation, a, b, i), due[i]);
@@ -574,7 +552,7 @@ public final class PromisesTest {
     }
 
     private static void promise16Leader() {
-        RelationRows x = sixOfThreeKinds();
+        Rows x = Scenes.sixOfThreeKinds();
         x.relation(6, NONE, NONE);
         x.relation(6, 1, 1);
         x.relation(5, NONE, NONE);
@@ -600,12 +578,12 @@ public final class PromisesTest {
             CHECK.badArgument("leader of " + bad, x, () -> x.leader(0, bad));
             CHECK.badArgument("no such thing comes first", x, () -> x.leader(2, bad));
         }
-        RelationRows forty = withPairs(40, 6, 39, 38);
+        Rows forty = Scenes.withPairs(40, 6, 39, 38);
         CHECK.same("of the last ones", forty.leader(0, 39), 38);
     }
 
     private static void promise17Differ() {
-        RelationRows x = withPairs(40, 3, 3, 4, 39, 39);
+        Rows x = Scenes.withPairs(40, 3, 3, 4, 39, 39);
         x.relation(3, NONE, NONE);
         CHECK.same("with itself", x.differ(0, 0), NONE);
         CHECK.same("the first has", x.differ(0, 1), 124);
@@ -628,15 +606,15 @@ public final class PromisesTest {
         }
     }
 
-    private static RelationRows withTwoEmpty() {
-        RelationRows x = new RelationRows(3);
+    private static Rows withTwoEmpty() {
+        Rows x = new Rows(3);
         x.relation(0, NONE, NONE);
         x.relation(5, 2, 2);
         return x;
     }
 
     private static void promise18Tally() {
-        RelationRows x = withPairs(40, 4, 39, 0);
+        Rows x = Scenes.withPairs(40, 4, 39, 0);
         x.relation(3, NONE, NONE);
         CHECK.same("set once", x.tally(39, 0), 1);
         CHECK.same("the other way round was not set", x.tally(0, 39), 0);
@@ -649,17 +627,17 @@ public final class PromisesTest {
         CHECK.badArgument("refused", x, () -> x.set(0, 1, 1));
         CHECK.same("refused is not tallied", x.tally(1, 1), 0);
         for (int bad : new int[] {-1, 40, LEAST, MOST}) {
-            CHECK.refuses("tally from " + bad, x, ArrayIndexOutOfBoundsException.class, () -> x.tally(bad, 0));
-            CHECK.refuses("tally to " + bad, x, ArrayIndexOutOfBoundsException.class, () -> x.tally(0, bad));
+            CHECK.badIndex("tally from " + bad, x, () -> x.tally(bad, 0));
+            CHECK.badIndex("tally to " + bad, x, () -> x.tally(0, bad));
         }
-        RelationRows small = withPairs(2, 3, 1, 0);
-        CHECK.refuses("tally to 2 of 2", small, ArrayIndexOutOfBoundsException.class, () -> small.tally(0, 2));
+        Rows small = Scenes.withPairs(2, 3, 1, 0);
+        CHECK.badIndex("tally to 2 of 2", small, () -> small.tally(0, 2));
         x.clear();
         CHECK.same("after clear", x.tally(39, 0), 0);
     }
 
     private static void promise19Of() {
-        RelationRows x = new RelationRows(7);
+        Rows x = new Rows(7);
         CHECK.same("things", x.of(0), 7);
         CHECK.same("no relations", x.of(1), 0);
         x.relation(2, NONE, NONE);
@@ -675,7 +653,7 @@ public final class PromisesTest {
     }
 
     private static void promise20Told() {
-        RelationRows x = new RelationRows(3);
+        Rows x = new Rows(3);
         x.relation(1, 3, NONE);
         x.relation(6, 2, 2);
         x.condition(4, 1, 0);
