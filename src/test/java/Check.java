@@ -6,6 +6,9 @@ final class Check {
         long answer();
     }
 
+    /** A fault can show in a hundred thousand answers; the first ones tell it. */
+    private static final int MOST_PRINTED = 100;
+
     private int asked = 0;
     private int wrong = 0;
 
@@ -77,9 +80,11 @@ final class Check {
         }
     }
 
-    void fault(String text) {
+    private void fault(String text) {
         wrong++;
-        System.out.println(text);
+        if (wrong <= MOST_PRINTED) {
+            System.out.println(text);
+        }
     }
 
     void end() {

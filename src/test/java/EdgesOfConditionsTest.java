@@ -24,6 +24,7 @@ public final class EdgesOfConditionsTest {
         farTwoAtLeast();
         farAsLongAsCanBe();
         asOthersHaveThemJustThen();
+        whateverIsAskedFirst();
         afterPushingOut();
         onOneAnother();
         noneOfThemIsSet();
@@ -110,6 +111,11 @@ public final class EdgesOfConditionsTest {
         CHECK.pairs("c may be a", x, 2, " 0-0 0-1 2-3");
         x.set(1, 2, 2);
         CHECK.pairs("all three may be one", x, 2, " 0-0 0-1 2-2 2-3");
+        Rows some = by(THROUGH, Scenes.withPairs(5, 3, 0, 1, 0, 2, 1, 3, 2, 4), 0, 0);
+        CHECK.pairs("several c", some, 1, " 0-3 0-4");
+        some.set(0, 2, 3);
+        some.drop(0, 1, 3);
+        CHECK.pairs("one c is enough", some, 1, " 0-3 0-4");
         Rows last = Scenes.withPairs(40, 3, 0, 39, 39, 1, 2, 0);
         by(THROUGH, last, 0, 0);
         CHECK.yes("through the last thing", last.has(1, 0, 1));
@@ -181,6 +187,32 @@ public final class EdgesOfConditionsTest {
             x.empty(0);
             CHECK.same(condition + " after empty", x.count(1), none);
         }
+    }
+
+    /** The same: the first question after a change has the new answer, whichever question it is. */
+    private static void whateverIsAskedFirst() {
+        CHECK.yes("has", justTurned().has(1, 2, 0));
+        CHECK.same("next", justTurned().next(1, 2, 0), 0);
+        CHECK.same("back", justTurned().back(1, 0, 0), 2);
+        CHECK.same("count", justTurned().count(1), 1);
+        CHECK.same("length", justTurned().length(1, 2, 0), 1);
+        CHECK.same("route", justTurned().route(1, 2, 0, 1), 0);
+        CHECK.same("differ", justTurned().differ(1, 2), 80);
+        CHECK.same("differ the other way round", justTurned().differ(2, 1), 80);
+        Rows gone = justTurned();
+        CHECK.no("has not", gone.has(1, 1, 0));
+        Rows none = justTurned();
+        CHECK.noElement("next of none", none, () -> none.next(1, 1, 0));
+        CHECK.same("length of none", justTurned().length(1, 1, 0), NONE);
+    }
+
+    /** Relation 1 is relation 0 turned, and was asked before (0, 2) pushed out (0, 1). */
+    private static Rows justTurned() {
+        Rows x = by(TURNED, Scenes.withPairs(3, 2, 0, 1), 0, NONE);
+        x.relation(3, NONE, NONE);
+        x.has(1, 1, 0);
+        x.set(0, 0, 2);
+        return x;
     }
 
     /** The same, of what is pushed out, and of twins, mutual ones and classes. */

@@ -29,6 +29,7 @@ public final class EdgesOfMakingTest {
         emptyAllThatCan();
         emptyTellsHowManyLess();
         emptyLeavesTheRest();
+        emptyNoSuch();
         pushedWhich();
         pushedByTheLastSet();
         CHECK.end();
@@ -289,6 +290,8 @@ public final class EdgesOfMakingTest {
         CHECK.yes("it goes", x.drop(0, 0, 2));
         CHECK.pushed("by the last set", x, "0-1");
         CHECK.same("tally", x.tally(0, 2), 1);
+        CHECK.no("it is gone", x.drop(0, 0, 2));
+        CHECK.pushed("by the last set, still", x, "0-1");
         x.set(1, 0, 2);
         CHECK.no("not there", x.drop(0, 0, 2));
         CHECK.yes("in the other relation", x.has(1, 0, 2));
@@ -340,6 +343,16 @@ public final class EdgesOfMakingTest {
         CHECK.same("its form", x.told(0, 0), 0);
         CHECK.same("so many relations", x.of(1), 2);
         CHECK.same("it can be set again", x.set(0, 0, 2), 0);
+    }
+
+    /** empty: "IllegalArgument; IllegalState: likewise." */
+    private static void emptyNoSuch() {
+        Rows x = Scenes.withPairs(2, 5, 0, 1);
+        x.condition(0, 0, NONE);
+        for (int bad : Scenes.beyond(2)) {
+            CHECK.badArgument("empty " + bad, x, () -> x.empty(bad));
+        }
+        CHECK.badState("empty by a condition", x, () -> x.empty(1));
     }
 
     /** "the first THING (which = 0), the second (1)" */

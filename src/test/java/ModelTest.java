@@ -3,27 +3,22 @@ import java.util.Random;
 /** Long runs of drawn calls, the same each time: the class and the model answer, or refuse, alike. */
 public final class ModelTest {
     private static final int RUNS = 1500;
-    private static final String[] CALL_NAMES = {
-        "clear", "kind", "relation", "condition", "set", "drop", "empty", "pushed", "has", "next", "back", "count",
-        "length", "route", "leader", "differ", "tally", "of", "told",
-    };
-    /** How often each of them is drawn, beside the others. */
+    /** How often each of the calls is drawn, beside the others. */
     private static final int[] WEIGHTS = {1, 12, 12, 12, 150, 30, 2, 20, 25, 25, 25, 12, 25, 40, 20, 15, 15, 8, 8};
 
     private final Check check;
     private final Random random;
-    private final RelationRows real;
+    private final Rows real;
     private final Model model;
     private final int things;
     /** A run keeps to few things, or to all, so that pairs meet. */
     private final int busy;
-    private int calls = 0;
 
     private ModelTest(Check check, long seed) {
         this.check = check;
         random = new Random(seed);
         int asked = random.nextInt(12) == 0 ? random.nextInt(60) - 10 : 2 + random.nextInt(9);
-        real = new RelationRows(asked);
+        real = new Rows(asked);
         model = new Model(asked);
         things = model.of(0);
         busy = Math.min(things, 3 + random.nextInt(40));
@@ -44,7 +39,7 @@ public final class ModelTest {
         for (int made = random.nextInt(6); made > 0; made--) {
             drawn(seed, "relation");
         }
-        while (calls < Rows.MOST_CALLS) {
+        while (real.calls() < Rows.MOST_CALLS) {
             String name = drawnName();
             // With relations about, clear would end most runs too early.
             if (name.equals("clear") && random.nextInt(3) != 0) {
@@ -67,7 +62,7 @@ public final class ModelTest {
             left -= WEIGHTS[at];
             at++;
         }
-        return CALL_NAMES[at];
+        return Calls.NAMES[at];
     }
 
     private boolean drawn(int seed, String name) {
@@ -133,58 +128,9 @@ public final class ModelTest {
     }
 
     private boolean ask(int seed, String name, int p, int q, int t, int u) {
-        calls++;
-        String due = Check.outcome(() -> modelAnswer(name, p, q, t, u));
-        String got = Check.outcome(() -> realAnswer(name, p, q, t, u));
+        String due = Check.outcome(() -> Calls.on(model, name, p, q, t, u));
+        String got = Check.outcome(() -> Calls.on(real, name, p, q, t, u));
         check.sameText("seed " + seed + ": " + name + "(" + p + ", " + q + ", " + t + ", " + u + ")", got, due);
         return got.equals(due);
-    }
-
-    private long modelAnswer(String name, int p, int q, int t, int u) {
-        return switch (name) {
-            case "clear" -> model.clear();
-            case "kind" -> model.kind(p, q);
-            case "relation" -> model.relation(p, q, t);
-            case "condition" -> model.condition(p, q, t);
-            case "set" -> model.set(p, q, t);
-            case "drop" -> model.drop(p, q, t) ? 1 : 0;
-            case "empty" -> model.empty(p);
-            case "pushed" -> model.pushed(p, q);
-            case "has" -> model.has(p, q, t) ? 1 : 0;
-            case "next" -> model.next(p, q, t);
-            case "back" -> model.back(p, q, t);
-            case "count" -> model.count(p);
-            case "length" -> model.length(p, q, t);
-            case "route" -> model.route(p, q, t, u);
-            case "leader" -> model.leader(p, q);
-            case "differ" -> model.differ(p, q);
-            case "tally" -> model.tally(p, q);
-            case "of" -> model.of(p);
-            default -> model.told(p, q);
-        };
-    }
-
-    private long realAnswer(String name, int p, int q, int t, int u) {
-        return switch (name) {
-            case "clear" -> real.clear();
-            case "kind" -> real.kind(p, q);
-            case "relation" -> real.relation(p, q, t);
-            case "condition" -> real.condition(p, q, t);
-            case "set" -> real.set(p, q, t);
-            case "drop" -> real.drop(p, q, t) ? 1 : 0;
-            case "empty" -> real.empty(p);
-            case "pushed" -> real.pushed(p, q);
-            case "has" -> real.has(p, q, t) ? 1 : 0;
-            case "next" -> real.next(p, q, t);
-            case "back" -> real.back(p, q, t);
-            case "count" -> real.count(p);
-            case "length" -> real.length(p, q, t);
-            case "route" -> real.route(p, q, t, u);
-            case "leader" -> real.leader(p, q);
-            case "differ" -> real.differ(p, q);
-            case "tally" -> real.tally(p, q);
-            case "of" -> real.of(p);
-            default -> real.told(p, q);
-        };
     }
 }
