@@ -105,6 +105,9 @@ final class Snapshot {
         int relations = one().of(1);
         text.append("\nkinds");
         for (int kind = 0; kind <= 3 && relations < 12; kind++) {
+            if (rows.calls() + 1 + things > Rows.MOST_CALLS) {
+                throw new AssertionError("this test leaves too few calls to ask for kinds with");
+            }
             RelationRows asked = rows.again();
             int classes = relations == 0 ? -1 : asked.relation(6, kind, kind);
             for (int thing = 0; thing < things; thing++) {
