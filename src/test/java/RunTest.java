@@ -3,6 +3,8 @@ import java.io.IOException;
 import java.nio.file.Files;
 import java.nio.file.Path;
 import java.nio.file.StandardCopyOption;
+import java.util.ArrayList;
+import java.util.List;
 import java.util.concurrent.TimeUnit;
 
 /** .ci/run passes where every test passes and fails where one does not: tried on small checkouts of its own. */
@@ -13,24 +15,33 @@ public final class RunTest {
     private static final String THROWS = "new RelationRows(3).of(9);";
     private static final String DOES_NOT_COMPILE = "new RelationRows(3).of();";
 
-    private static final Check CHECK = new Check();
+    /** A run of .ci/run under way, and the exit code that is due. */
+    private record Trial(String name, Process process, int due) {
+    }
 
     private RunTest() {
     }
 
     public static void main(String[] args) throws IOException, InterruptedException {
-        CHECK.same("all pass", run("all-pass", PASSES, PASSES), 0);
-        CHECK.same("one of the project fails", run("own-fails", FAILS, PASSES), 1);
-        CHECK.same("one of the project throws", run("own-throws", THROWS, PASSES), 1);
-        CHECK.same("one of the project does not compile", run("own-does-not-compile", DOES_NOT_COMPILE, PASSES), 1);
-        CHECK.same("a shared one fails", run("shared-fails", PASSES, FAILS), 1);
-        CHECK.same("a shared one throws", run("shared-throws", PASSES, THROWS), 1);
-        CHECK.same("there is no shared one", run("no-shared", PASSES, null), 1);
-        CHECK.end();
+        List<Trial> trials = new ArrayList<>();
+        trials.add(start("all-pass", PASSES, PASSES, 0));
+        trials.add(start("own-fails", FAILS, PASSES, 1));
+        trials.add(start("own-throws", THROWS, PASSES, 1));
+        trials.add(start("own-does-not-compile", DOES_NOT_COMPILE, PASSES, 1));
+        trials.add(start("shared-fails", PASSES, FAILS, 1));
+        trials.add(start("shared-throws", PASSES, THROWS, 1));
+        trials.add(start("no-shared", PASSES, null, 1));
+        Check check = new Check();
+        for (Trial trial : trials) {
+            check.yes(trial.name() + " ended", trial.process().waitFor(5, TimeUnit.MINUTES));
+            trial.process().destroyForcibly();
+            check.same(trial.name(), trial.process().waitFor(), trial.due());
+        }
+        check.end();
     }
 
     /** A test that passes stands before and behind, so that a fault must be kept in mind to the end. */
-    private static int run(String name, String own, String shared) throws IOException, InterruptedException {
+    private static Trial start(String name, String own, String shared, int due) throws IOException {
         Path trial = TRIALS.resolve(name);
         Path checkout = trial.resolve("main");
         copy(checkout, ".ci/run");
@@ -42,12 +53,9 @@ public final class RunTest {
             write(trial.resolve("shared/tests"), "Last", PASSES);
         }
         Process process = new ProcessBuilder(checkout.resolve(".ci/run").toAbsolutePath().toString())
-                .redirectErrorStream(true).redirectOutput(trial.resolve("said").toFile()).directory(new File("/")).start();
-        if (!process.waitFor(5, TimeUnit.MINUTES)) {
-            process.destroyForcibly();
-            throw new AssertionError(name + " did not end");
-        }
-        return process.exitValue();
+                .redirectErrorStream(true).redirectOutput(trial.resolve("said").toFile()).directory(new File("/"))
+                .start();
+        return new Trial(name, process, due);
     }
 
     private static void copy(Path checkout, String file) throws IOException {
